@@ -929,6 +929,8 @@ public final class NettleShirts {
         private final int[][] rows = new int[MOST_PLANNED + 1][Life.ROW];
         private final int[] tried = new int[MOST_PLANNED];
         private final int[] best = new int[MOST_PLANNED];
+        /** How many pieces of 1, 2 and 3 parts the shirts still lack, a night of sewing taking one at most. */
+        private final int[] pieces = new int[Life.SEWN_UNHURT + 1];
         private int nights = 0;
         private int some = 0;
         private int most = NONE;
@@ -1012,27 +1014,41 @@ public final class NettleShirts {
             int ahead = nights - depth;
             int parts = 0;
             int sewing = 0;
+            Arrays.fill(pieces, 0);
             for (int shirt = 0; shirt < life.shirts; shirt++) {
+                int lacks = life.lacks(row, shirt);
+                int whole = lacks / Life.SEWN_UNHURT;
+                int rest = lacks - whole * Life.SEWN_UNHURT;
+                pieces[Life.SEWN_UNHURT] += whole;
+                pieces[rest]++;
                 if (isSet(some, shirt)) {
-                    int lacks = life.lacks(row, shirt);
                     parts += lacks;
-                    sewing += (lacks + Life.SEWN_UNHURT - 1) / Life.SEWN_UNHURT;
+                    sewing += rest == 0 ? whole : whole + 1;
                 }
             }
-            int sewable = mostSewable(life, row, ahead);
+            int sewable = mostSewable(row, ahead);
             return sewing <= ahead && parts <= sewable && sewn + sewable > most;
         }
 
-        /** No plan sews more: as if each night without sewing both healed and was the best of picking. */
-        private int mostSewable(Life life, int[] row, int ahead) {
+        /**
+         * No plan sews more: as if each night without sewing both healed and was the best of picking, and
+         * the nights of sewing took the greatest pieces.
+         */
+        private int mostSewable(int[] row, int ahead) {
+            int threes = pieces[3];
+            int twos = threes + pieces[2];
+            int ones = twos + pieces[1];
             int hands = 0;
+            int cloth = 0;
             int sewable = 0;
             for (int sewing = 1; sewing <= ahead; sewing++) {
                 int others = ahead - sewing;
                 hands += Life.partsBy(Math.max(row[Life.HURT] - Life.HEALED * others, 0));
-                sewable = Math.max(sewable, Math.min(hands, row[Life.STOCK] + mostPicked * others));
+                cloth += sewing <= threes ? 3 : sewing <= twos ? 2 : sewing <= ones ? 1 : 0;
+                int stock = row[Life.STOCK] + mostPicked * others;
+                sewable = Math.max(sewable, Math.min(stock, Math.min(hands, cloth)));
             }
-            return Math.min(sewable, life.lacking(row));
+            return sewable;
         }
 
         int bareRows(Life life, int m) {

@@ -2,14 +2,18 @@ import java.util.Random;
 
 /** Runs of calls by chance (the same ones each time), each answered as the model does, all 35 promises together. */
 public final class ModelTest {
-    private static final int RUNS = 400;
+    private static final int RUNS = 2000;
+    /** So many calls of an object are promised. */
     private static final int CALLS = 512;
+    /** A step asks no more than this, but for a text that is typed. */
+    private static final int ROOM = 8;
     /** The model goes through all plans: more of the long ones would take too long. */
-    private static final int LONG_PLANS = 12;
+    private static final int LONG_PLANS = 5;
 
     private static Random chance;
     private static NettleShirts x;
     private static Model y;
+    private static int calls;
     private static int longPlans;
 
     public static void main(String[] args) {
@@ -17,18 +21,23 @@ public final class ModelTest {
             chance = new Random(1000 + run);
             x = new NettleShirts();
             y = new Model();
+            calls = 0;
             longPlans = 0;
-            int style = run % 5;
-            for (int k = 0; k < CALLS && Check.isAllRight(); k++) {
-                String at = "run " + run + ", call " + k + ": ";
-                oneCall(at, style);
-                Check.due(at + "the digest behind it", x.digest(), y.digest());
+            while (calls + ROOM <= CALLS && Check.isAllRight()) {
+                String at = "run " + run + ", call " + calls + ": ";
+                oneCall(at, run % 5);
+                ask(at + "the digest behind it", x.digest(), y.digest());
             }
             for (int what = 0; what < 3; what++) {
-                Check.due("run " + run + ": status " + what, x.status(what), y.status(what));
+                ask("run " + run + ": status " + what, x.status(what), y.status(what));
             }
         }
         Check.end();
+    }
+
+    private static void ask(String call, long got, long want) {
+        calls++;
+        Check.due(call, got, want);
     }
 
     /** Mostly a number as told, at times one beside that. */
@@ -67,13 +76,13 @@ public final class ModelTest {
         int a = some(0, 7);
         int b = some(0, 20);
         switch (chance.nextInt(12)) {
-            case 0: a = some(0, 5); Check.due(at + "plot(" + a + ", " + b + ")", x.plot(a, b), y.plot(a, b)); return;
-            case 1: a = some(1, 12); Check.due(at + "shirt(" + a + ")", x.shirt(a), y.shirt(a)); return;
-            case 2: Check.due(at + "undo()", x.undo(), y.undo()); return;
-            case 3: a = some(0, 2); Check.due(at + "nettles(" + a + ")", x.nettles(a), y.nettles(a)); return;
-            case 4: a = some(0, 3); Check.due(at + "sewn(" + a + ")", x.sewn(a), y.sewn(a)); return;
-            case 5: a = some(0, 1); Check.due(at + "has(" + a + ")", x.has(a), y.has(a)); return;
-            default: Check.due(at + "night(" + a + ")", x.night(a), y.night(a));
+            case 0: a = some(0, 5); ask(at + "plot(" + a + ", " + b + ")", x.plot(a, b), y.plot(a, b)); return;
+            case 1: a = some(1, 12); ask(at + "shirt(" + a + ")", x.shirt(a), y.shirt(a)); return;
+            case 2: ask(at + "undo()", x.undo(), y.undo()); return;
+            case 3: a = some(0, 2); ask(at + "nettles(" + a + ")", x.nettles(a), y.nettles(a)); return;
+            case 4: a = some(0, 3); ask(at + "sewn(" + a + ")", x.sewn(a), y.sewn(a)); return;
+            case 5: a = some(0, 1); ask(at + "has(" + a + ")", x.has(a), y.has(a)); return;
+            default: ask(at + "night(" + a + ")", x.night(a), y.night(a));
         }
     }
 
@@ -89,24 +98,24 @@ public final class ModelTest {
     private static void planCall(String at) {
         int m = nightsPlanned();
         int i = chance.nextInt(3) == 0 ? -1 : some(-1, 5);
-        int shirts = Math.max(1, x.count(1));
+        int shirts = Math.max(1, y.count(1));
         int bits = chance.nextInt(8) == 0 ? some(0, 15) : chance.nextInt(1 << shirts);
         int what = some(0, 1);
         switch (chance.nextInt(9)) {
-            case 0: Check.due(at + "plan(" + m + ", " + i + ")", x.plan(m, i), y.plan(m, i)); return;
+            case 0: ask(at + "plan(" + m + ", " + i + ")", x.plan(m, i), y.plan(m, i)); return;
             case 1:
-                Check.due(at + "inTime(" + m + ", " + bits + ", " + i + ")", x.inTime(m, bits, i), y.inTime(m, bits, i));
+                ask(at + "inTime(" + m + ", " + bits + ", " + i + ")", x.inTime(m, bits, i), y.inTime(m, bits, i));
                 return;
             case 2:
                 longPlans++;
                 if (longPlans <= LONG_PLANS) {
-                    Check.due(at + "fewest(" + bits + ")", x.fewest(bits), y.fewest(bits));
+                    ask(at + "fewest(" + bits + ")", x.fewest(bits), y.fewest(bits));
                 }
                 return;
-            case 3: Check.due(at + "left(" + m + ", " + what + ")", x.left(m, what), y.left(m, what)); return;
+            case 3: ask(at + "left(" + m + ", " + what + ")", x.left(m, what), y.left(m, what)); return;
             case 4: chanceCall(at); return;
             case 5: toldCall(at); return;
-            case 6: m = some(0, 4); Check.due(at + "bare(" + m + ", " + what + ")", x.bare(m, what), y.bare(m, what)); return;
+            case 6: m = some(0, 4); ask(at + "bare(" + m + ", " + what + ")", x.bare(m, what), y.bare(m, what)); return;
             default: nightCall(at);
         }
     }
@@ -116,10 +125,10 @@ public final class ModelTest {
         int n = some(0, 20);
         if (chance.nextBoolean()) {
             int stands = x.nettles(plot);
-            Check.due(at + "nettles(" + plot + ")", stands, y.nettles(plot));
+            ask(at + "nettles(" + plot + ")", stands, y.nettles(plot));
             n = stands >= 0 ? stands : n;
         }
-        Check.due(at + "told(" + plot + ", " + n + ")", x.told(plot, n), y.told(plot, n));
+        ask(at + "told(" + plot + ", " + n + ")", x.told(plot, n), y.told(plot, n));
     }
 
     private static void chanceCall(String at) {
@@ -129,11 +138,11 @@ public final class ModelTest {
         int b = some(1, 99);
         int a = b >= 1 && b <= 99 ? some(1, b) : some(1, 99);
         if (chance.nextBoolean()) {
-            Check.due(at + "stings(" + n + ", " + k + ", " + l + ")", x.stings(n, k, l), y.stings(n, k, l));
-            Check.due(at + "part(0)", x.part(0), y.part(0));
-            Check.due(at + "part(1)", x.part(1), y.part(1));
+            ask(at + "stings(" + n + ", " + k + ", " + l + ")", x.stings(n, k, l), y.stings(n, k, l));
+            ask(at + "part(0)", x.part(0), y.part(0));
+            ask(at + "part(1)", x.part(1), y.part(1));
         } else {
-            Check.due(at + "surest(" + n + ", " + l + ", " + a + ", " + b + ")", x.surest(n, l, a, b), y.surest(n, l, a, b));
+            ask(at + "surest(" + n + ", " + l + ", " + a + ", " + b + ")", x.surest(n, l, a, b), y.surest(n, l, a, b));
         }
     }
 
@@ -142,26 +151,26 @@ public final class ModelTest {
         int c = chance.nextInt(4) == 0 ? some(0, 25) : chance.nextInt(4);
         int n = chance.nextBoolean() ? -1 : some(-1, 3);
         switch (chance.nextInt(10)) {
-            case 0: case 1: Check.due(at + "sign(" + c + ")", x.sign(c), y.sign(c)); return;
+            case 0: case 1: ask(at + "sign(" + c + ")", x.sign(c), y.sign(c)); return;
             case 2: case 3:
                 c = chance.nextInt(3) > 0 ? c : chance.nextInt(4) == 0 ? some(0, 27) : 26 + chance.nextInt(2);
-                Check.due(at + "law(" + i + ", " + c + ")", x.law(i, c), y.law(i, c));
+                ask(at + "law(" + i + ", " + c + ")", x.law(i, c), y.law(i, c));
                 return;
             case 4:
                 if (chance.nextInt(6) == 0) {
-                    Check.due(at + "hush()", x.hush(), y.hush());
+                    ask(at + "hush()", x.hush(), y.hush());
                 } else {
-                    Check.due(at + "sign(" + c + ")", x.sign(c), y.sign(c));
+                    ask(at + "sign(" + c + ")", x.sign(c), y.sign(c));
                 }
                 return;
             case 5:
                 if (chance.nextBoolean()) {
-                    Check.due(at + "noLaw(" + i + ")", x.noLaw(i), y.noLaw(i));
+                    ask(at + "noLaw(" + i + ")", x.noLaw(i), y.noLaw(i));
                 }
                 return;
-            case 6: Check.due(at + "word(" + i + ")", x.word(i), y.word(i)); return;
-            case 7: Check.due(at + "silent()", x.silent(), y.silent()); return;
-            default: Check.due(at + "met(" + c + ", " + n + ")", x.met(c, n), y.met(c, n));
+            case 6: ask(at + "word(" + i + ")", x.word(i), y.word(i)); return;
+            case 7: ask(at + "silent()", x.silent(), y.silent()); return;
+            default: ask(at + "met(" + c + ", " + n + ")", x.met(c, n), y.met(c, n));
         }
     }
 
@@ -170,36 +179,45 @@ public final class ModelTest {
         int weight = some(1, 9);
         int l = some(1, 20);
         switch (chance.nextInt(12)) {
-            case 0: Check.due(at + "noTrial()", x.noTrial(), y.noTrial()); return;
+            case 0: ask(at + "noTrial()", x.noTrial(), y.noTrial()); return;
             case 1: case 2: case 3: case 4: case 5:
-                Check.due(at + "show(" + what + ", " + weight + ")", x.show(what, weight), y.show(what, weight));
+                ask(at + "show(" + what + ", " + weight + ")", x.show(what, weight), y.show(what, weight));
                 return;
-            default: Check.due(at + "lasts(" + l + ", " + what + ")", x.lasts(l, what), y.lasts(l, what));
+            default: ask(at + "lasts(" + l + ", " + what + ")", x.lasts(l, what), y.lasts(l, what));
         }
     }
 
     private static void textCall(String at) {
         switch (chance.nextInt(8)) {
-            case 0: Check.due(at + "clear()", x.clear(), y.clear()); return;
+            case 0: ask(at + "clear()", x.clear(), y.clear()); return;
             case 1:
                 long v = chance.nextLong();
                 int n = some(1, 8);
-                Check.due(at + "type(" + v + ", " + n + ")", x.type(v, n), y.type(v, n));
+                ask(at + "type(" + v + ", " + n + ")", x.type(v, n), y.type(v, n));
                 return;
-            case 2: Check.due(at + "read()", x.read(), y.read()); return;
+            case 2: ask(at + "read()", x.read(), y.read()); return;
             default:
                 if (chance.nextInt(3) > 0) {
-                    Check.due(at + "clear()", x.clear(), y.clear());
+                    ask(at + "clear()", x.clear(), y.clear());
                 }
-                typeBoth(at, lifeByChance());
-                Check.due(at + "read()", x.read(), y.read());
+                String life = lifeByChance();
+                if (calls + life.length() + ROOM <= CALLS) {
+                    typeBoth(at, life);
+                    ask(at + "read()", x.read(), y.read());
+                }
         }
     }
 
     private static void typeBoth(String at, String text) {
-        for (int k = 0; k < text.length(); k++) {
-            int c = text.charAt(k);
-            Check.due(at + "type(" + c + ", 1)", x.type(c, 1), y.type(c, 1));
+        int from = 0;
+        while (from < text.length()) {
+            int n = Math.min(1 + chance.nextInt(8), text.length() - from);
+            long v = chance.nextLong();
+            for (int k = 0; k < n; k++) {
+                v = v << 8 | text.charAt(from + k);
+            }
+            ask(at + "type(" + v + ", " + n + ")", x.type(v, n), y.type(v, n));
+            from += n;
         }
     }
 
@@ -259,11 +277,11 @@ public final class ModelTest {
         int i = some(0, 1);
         int what = some(0, 7);
         switch (chance.nextInt(6)) {
-            case 0: Check.due(at + "image(" + i + ")", x.image(i), y.image(i)); return;
-            case 1: Check.due(at + "from(" + i + ")", x.from(i), y.from(i)); return;
-            case 2: i = some(0, 2); Check.due(at + "status(" + i + ")", x.status(i), y.status(i)); return;
-            case 3: Check.due(at + "count(" + what + ")", x.count(what), y.count(what)); return;
-            case 4: Check.due(at + "part(" + i + ")", x.part(i), y.part(i)); return;
+            case 0: ask(at + "image(" + i + ")", x.image(i), y.image(i)); return;
+            case 1: ask(at + "from(" + i + ")", x.from(i), y.from(i)); return;
+            case 2: i = some(0, 2); ask(at + "status(" + i + ")", x.status(i), y.status(i)); return;
+            case 3: ask(at + "count(" + what + ")", x.count(what), y.count(what)); return;
+            case 4: ask(at + "part(" + i + ")", x.part(i), y.part(i)); return;
             default: nightCall(at);
         }
     }

@@ -6,6 +6,9 @@ public final class EdgesOfPlansTest {
         ofLikePlansTheFirst();
         aPlanIsOfTheNightsThereAre();
         aPlanIsFromNow();
+        aPlanGoesByTheNightsNumbers();
+        restIsWorthANight();
+        aPlanOfFourShirts();
         inTimeHas0To5Nights();
         inTimeNightsAreAskedFrom0();
         inTimeIsOfShirtsThereAre();
@@ -147,6 +150,64 @@ public final class EdgesOfPlansTest {
         x.night(1);
         plan("too much of it", x, 1, 0, 0);
         plan("rest, then sew", x, 2, 1, 7, 3);
+    }
+
+    /** "none in NIGHTS of which the number by 3 leaves 2": of the nights to come. */
+    private static void aPlanGoesByTheNightsNumbers() {
+        int[][] most = {{0, 3, 3, 6, 6}, {0, 3, 3, 6, 6}, {0, 0, 3, 3, 6}};
+        for (int number = 0; number < 9; number++) {
+            NettleShirts x = new NettleShirts();
+            x.plot(4, 20);
+            x.shirt(12);
+            for (int k = 0; k < number; k++) {
+                x.night(7);
+            }
+            for (int m = 1; m <= 5; m++) {
+                Check.due("most of " + m + " from night " + number, x.plan(m, -1), most[number % 3][m - 1]);
+            }
+            Check.due("first of two from night " + number, x.plan(2, 0), 0);
+        }
+    }
+
+    /** "HURT is 2 less": a night of rest is tried even behind a night that only hurts. */
+    private static void restIsWorthANight() {
+        NettleShirts x = new NettleShirts();
+        x.plot(0, 0);
+        x.plot(1, 20);
+        x.shirt(12);
+        for (int k = 0; k < 5; k++) {
+            x.night(1);
+        }
+        for (int k = 0; k < 4; k++) {
+            x.night(0);
+        }
+        Check.due("hurt", x.has(1), 4);
+        plan("one night", x, 1, 2, 3);
+        plan("two nights", x, 2, 4, 3, 3);
+        plan("three nights", x, 3, 6, 3, 3, 3);
+        plan("four nights", x, 4, 9, 7, 3, 3, 3);
+        plan("five nights", x, 5, 12, 7, 3, 3, 3, 3);
+    }
+
+    /** All that four shirts lack, and which of them is sewn. */
+    private static void aPlanOfFourShirts() {
+        NettleShirts x = new NettleShirts();
+        x.plot(1, 20);
+        x.shirt(1);
+        x.shirt(2);
+        x.shirt(3);
+        x.shirt(12);
+        Edge.fine("all is left", x, () -> x.left(0, 0), 18);
+        Edge.fine("most of the last", x, () -> x.left(0, 1), 3);
+        plan("three parts at once", x, 2, 3, 0, 5);
+        for (int k = 0; k < 6; k++) {
+            x.night(0);
+        }
+        plan("with stock", x, 5, 15, 5, 6, 6, 6, 6);
+        Edge.fine("left behind it", x, () -> x.left(5, 0), 3);
+        Edge.fine("most of shirt 1", x, () -> x.left(5, 1), 1);
+        inTime("the first two in time", x, 4, 3, 9, 3, 4, 5, 6);
+        inTime("all but the last", x, 3, 7, 6, 3, 4, 5);
     }
 
     /** IN TIME, "the same"; "BAD: -10." */

@@ -12,6 +12,7 @@ public final class EdgesOfStateTest {
         imagesKeepAll();
         imagesKeepNightsThatMayBeUndone();
         imagesKeepAFullLife();
+        imagesKeepEachValue();
         imagesDoNotKeepTheRest();
         imagesDoNotKeepImages();
         anImageStaysAsItWas();
@@ -196,6 +197,39 @@ public final class EdgesOfStateTest {
         Edge.full("proofs", x, () -> x.show(1, 1));
         Check.due("from the empty one", x.from(1), 1);
         Check.due("nothing is there", x.digest(), empty);
+    }
+
+    /** Not how many alone: each value that another one has taken the place of is back. */
+    private static void imagesKeepEachValue() {
+        NettleShirts x = fullLife();
+        long state = x.digest();
+        int[] was = {x.lasts(9, 0), x.lasts(15, 0), x.left(0, 0), x.word(3), x.silent()};
+        x.image(1);
+        x.read();
+        for (int k = 0; k < 3; k++) {
+            x.plot(k, 3);
+            x.told(k, 2);
+        }
+        for (int k = 0; k < 4; k++) {
+            x.shirt(1);
+            x.show(0, 1);
+            x.show(1, 9);
+        }
+        for (int k = 0; k < 60; k++) {
+            x.sign(1);
+        }
+        for (int k = 0; k < 32; k++) {
+            x.law(k / 8, 2);
+        }
+        for (int k = 0; k < 14; k++) {
+            x.night(7);
+        }
+        Check.due("from", x.from(1), 1);
+        Check.due("the digest", x.digest(), state);
+        int[] is = {x.lasts(9, 0), x.lasts(15, 0), x.left(0, 0), x.word(3), x.silent()};
+        for (int k = 0; k < is.length; k++) {
+            Check.due("value " + k, is[k], was[k]);
+        }
     }
 
     /** "all but them, THE TEXT, THE FRACTION and STATUS". */

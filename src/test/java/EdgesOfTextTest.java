@@ -33,6 +33,9 @@ public final class EdgesOfTextTest {
         itemsAreRefusedAsCallsAre();
         itemsAreAsManyAsThereAre();
         aLifeIsToldAnew();
+        aLifeReadTwiceIsTheSame();
+        whatWasRefusedIsNotKept();
+        whatWasClearedIsNotRead();
         theRestStays();
         aFaultChangesNothing();
         aRefusedItemChangesNothing();
@@ -224,6 +227,10 @@ public final class EdgesOfTextTest {
             faultAt(name + ". 1;", 0);
             faultAt("+" + name + " 1;", 0);
             faultAt("shirt 1; x" + name + " 1;", 9);
+            for (int k = 0; k < name.length(); k++) {
+                String other = name.substring(0, k) + "q" + name.substring(k + 1);
+                faultAt(other + " 1 a;", 0);
+            }
             faultAt(name + name + " 1;", 0);
         }
         faultAt("shirt shirt;", 6);
@@ -282,7 +289,8 @@ public final class EdgesOfTextTest {
         Check.due("read", x.read(), 3);
         Check.due("charges", x.count(5), 2);
         Check.due("proofs", x.count(6), 1);
-        Check.due("the charge of 3 ends it", x.lasts(3, 1), 0);
+        Check.due("the charge of 3 ends it", x.lasts(3, 0), 1);
+        Check.due("it does not by 4", x.lasts(4, 0), 3);
     }
 
     /** "law i and one word". */
@@ -423,6 +431,9 @@ public final class EdgesOfTextTest {
         faultAt("day" + " ".repeat(197), 200);
         faultAt(" ".repeat(197) + "day", 200);
         faultAt(" ".repeat(198) + "99", 198);
+        faultAt(" ".repeat(195) + "day a", 200);
+        faultAt(" ".repeat(193) + "law 0 a", 200);
+        faultAt(" ".repeat(193) + "shirt 1", 200);
         reads(" ".repeat(194) + "day a;", 1);
         reads("day a;" + " ".repeat(194), 1);
         reads(" ".repeat(200), 0);
@@ -514,6 +525,59 @@ public final class EdgesOfTextTest {
         }
         Check.due("no stock", y.has(0), 0);
         Check.due("no hurt", y.has(1), 0);
+    }
+
+    /** "by these alone": nothing of what was read before. */
+    private static void aLifeReadTwiceIsTheSame() {
+        NettleShirts x = new NettleShirts();
+        Check.type(x, "plot 3 7;plot 3 8;plot 3 9;shirt 2;shirt 3;shirt 4;shirt 5;charge 9;charge 8;charge 7;charge 6;"
+            + "proof 1;proof 2;proof 3;proof 4;law 0 abcdefgh;law 3 z;day " + "a".repeat(44) + ";");
+        Check.due("a full text", x.count(7), 199);
+        Edge.fine("read", x, () -> x.read(), 18);
+        long state = x.digest();
+        x.night(0);
+        x.night(3);
+        x.told(2, 5);
+        Edge.fine("read again", x, () -> x.read(), 18);
+        Check.due("the same life", x.digest(), state);
+        x.clear();
+        Check.type(x, "plot 0 1;shirt 1;charge 1;proof 1;law 0 b;day c;");
+        Edge.fine("another life", x, () -> x.read(), 6);
+        NettleShirts y = new NettleShirts();
+        Check.type(y, "plot 0 1;shirt 1;charge 1;proof 1;law 0 b;day c;");
+        Check.due("read alone", y.read(), 6);
+        Check.due("has nothing of the one before", x.digest(), y.digest());
+        Check.due("nor is more left to sew", x.left(0, 0), 1);
+    }
+
+    /** Items told ahead of the one that is refused are not in the next life either. */
+    private static void whatWasRefusedIsNotKept() {
+        NettleShirts x = new NettleShirts();
+        Check.type(x, "plot 0 1;shirt 1;charge 1;proof 1;law 0 b;day c;shirt 13;");
+        Edge.fine("refused", x, () -> x.read(), -1006);
+        x.clear();
+        Edge.fine("a life of nothing", x, () -> x.read(), 0);
+        Check.due("nothing is there", x.digest(), new NettleShirts().digest());
+    }
+
+    /** "THE TEXT is empty": bytes that were there are none of a shorter text. */
+    private static void whatWasClearedIsNotRead() {
+        cleared("day ab;", "day a", -15);
+        cleared("day ab.", "day ab", -16);
+        cleared("law 0 abcdefghi;", "law 0 abcdefgh", -24);
+        cleared("shirt 123;", "shirt 12", -18);
+        cleared("shirt 1; ;", "shirt 1; ", 1);
+        cleared("shirt 1;", "shirt", -15);
+        cleared("plots", "plot", -14);
+        cleared("day a;day b;", "day a;", 1);
+    }
+
+    private static void cleared(String before, String text, int due) {
+        NettleShirts x = new NettleShirts();
+        Check.type(x, before);
+        x.clear();
+        Check.type(x, text);
+        Edge.fine("'" + text + "' behind '" + before + "'", x, () -> x.read(), due);
     }
 
     /** THE TEXT, THE FRACTION, the IMAGES and the STATUS are no items. */

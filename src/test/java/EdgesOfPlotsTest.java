@@ -65,7 +65,7 @@ public final class EdgesOfPlotsTest {
         x.plot(1, stock % 3);
         x.plot(kind, 20);
         x.night(1);
-        while (x.has(0) < stock) {
+        for (int k = 0; k < 100 && x.has(0) < stock; k++) {
             x.night(x.nettles(0) >= 3 ? 0 : 7);
         }
         Check.due("stock is set", x.has(0), stock);
